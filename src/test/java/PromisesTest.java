@@ -509,12 +509,9 @@ public final class PromisesTest {
     }
 
     private static void promises16And17Ties() {
-        // A tie of runs with plain is none: 37 k is never 512. Words with offsets, int column:
-        // k words, f figures: 32 k + 16 width(k - 1) = 39 + 16 f has no answer, for 39 is odd.
-        // Words with plain: 15 words, 480 + 64 = 544; 14 words, 448 + 64 = 512, a tie.
         long far = 1L << 62;
-        ColumnHall tie = filled(0, far, 1, 2, 3, 4, 5, 6, 7, 8, 9, 10, 11, 12, 0, far);
-        packed("words as many as plain, long: plain", new ColumnHallOf(tie).hall, 3, 2, 14 * 64 + 64);
+        ColumnHall fourteen = filled(0, far, 1, 2, 3, 4, 5, 6, 7, 8, 9, 10, 11, 12, 0, far);
+        packed("fourteen words, long", fourteen, 3, 2, 14 * 64 + 64);
         ColumnHall fifteen = filled(0, far, 1, 2, 3, 4, 5, 6, 7, 8, 9, 10, 11, 12, 13, far);
         packed("words need as much as plain, long: plain", fifteen, 3, 0, 1024);
         ColumnHall ints = new ColumnHall();
@@ -522,14 +519,11 @@ public final class PromisesTest {
             ints.append(i % 14 == 1 ? 1 << 30 : i % 14, 0, 0, 0L);
         }
         packed("words need as much as plain, int: plain", ints, 0, 0, 512);
-    }
-
-    private static final class ColumnHallOf {
-        final ColumnHall hall;
-
-        ColumnHallOf(ColumnHall hall) {
-            this.hall = hall;
-        }
+        // Eleven runs and offsets of 23 figures need 407 in ints, of 43 figures 759 in longs.
+        ColumnHall ofInts = filled(0, 0, 0, 0, 0, 0, 1, 2, 3, 4, 5, 6, 7, 8, 9, 1 << 22);
+        packed("offsets need as much as runs, int: runs", ofInts, 0, 1, 407);
+        ColumnHall ofLongs = filled(0, 0, 0, 0, 0, 0, 1, 2, 3, 4, 5, 6, 7, 8, 9, 1L << 42);
+        packed("offsets need as much as runs, long: runs", ofLongs, 3, 1, 759);
     }
 
     private static void promise18Purge() {
