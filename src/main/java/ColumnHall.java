@@ -380,7 +380,7 @@ public final class ColumnHall {
         return sum;
     }
 
-    /** There must be one from the place from on. */
+    /** At least one row must be picked at from: the callers have refused what is empty. */
     private long boundOfPicked(int column, boolean most, int from, int to) {
         long best = cells[spot(picked[from], column)];
         for (int i = from + 1; i < to; i++) {
@@ -413,7 +413,7 @@ public final class ColumnHall {
         return greatestFirst ? cell > other : cell < other;
     }
 
-    /** The picked rows must be sorted by the column, here and in the two below. */
+    /** Equal cells stand together only if the picked rows are sorted by this column. */
     private boolean startsGroup(int i, int column) {
         return i == 0 || cells[spot(picked[i], column)] != cells[spot(picked[i - 1], column)];
     }
