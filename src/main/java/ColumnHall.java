@@ -4,7 +4,7 @@ import java.util.NoSuchElementException;
  * A table that is kept by columns. The numbers of the promises are those of the document.
  *
  * <p>All arrays are made once, in the constructor, and used again by every call: no call makes
- * an object, whatever its arguments.
+ * an object but the exception that it throws.
  */
 public final class ColumnHall {
     private static final int COLUMNS = 4;
